@@ -750,34 +750,45 @@ public final class FeatherBeds {
         int sleep(int nights) {
             int lost = 0;
             for (int night = 0; night < nights; night++) {
-                for (int square = 0; square < heaps.length; square++) {
-                    lost += heaps[square].prick(density);
+                int pricked = prickInAll();
+                int shifted = shiftInAll();
+                lost += pricked;
+                if (pricked == 0 && shifted == 0) {
+                    // a night that changes nothing is followed by none that does
+                    return lost;
                 }
-                shiftInAll();
             }
             return lost;
         }
 
-        void shiftInAll() {
+        int prickInAll() {
+            int lost = 0;
+            for (int square = 0; square < heaps.length; square++) {
+                lost += heaps[square].prick(density);
+            }
+            return lost;
+        }
+
+        int shiftInAll() {
+            int shifted = 0;
             for (int square = 0; square < squares; square++) {
                 for (int direction = 0; direction < DIRECTIONS; direction++) {
                     if (isOpen(square, direction)) {
-                        shiftBetween(square, otherOfPair(square, direction));
+                        shifted += shiftBetween(square, otherOfPair(square, direction));
                     }
                 }
             }
+            return shifted;
         }
 
-        void shiftBetween(int first, int second) {
+        int shiftBetween(int first, int second) {
             if (first < 0 || first >= heaps.length || second < 0 || second >= heaps.length) {
-                return;
+                return 0;
             }
             int difference = heaps[first].all - heaps[second].all;
-            if (difference > 0) {
-                heaps[first].moveTo(heaps[second], difference / 8, SHIFTING_SIZES);
-            } else {
-                heaps[second].moveTo(heaps[first], -difference / 8, SHIFTING_SIZES);
-            }
+            return difference > 0
+                    ? heaps[first].moveTo(heaps[second], difference / 8, SHIFTING_SIZES)
+                    : heaps[second].moveTo(heaps[first], -difference / 8, SHIFTING_SIZES);
         }
     }
 }
