@@ -278,11 +278,13 @@ public final class NightsTest {
     }
 
     private static long digestOf(FeatherBeds x) {
+        int sacks = x.count(1);
+        int ticks = x.count(2);
         long d = 617;
         for (int what = 0; what <= 8; what++) {
             d = d * 31 + x.count(what);
         }
-        for (int s = 0; s < x.count(1); s++) {
+        for (int s = 0; s < sacks; s++) {
             for (int what = 0; what <= 7; what++) {
                 d = d * 31 + x.sack(s, what);
             }
@@ -292,11 +294,12 @@ public final class NightsTest {
                 d = d * 31 + x.chamber(c, what);
             }
         }
-        for (int t = 0; t < x.count(2); t++) {
+        for (int t = 0; t < ticks; t++) {
             for (int what = 0; what <= 8; what++) {
                 d = d * 31 + x.tick(t, what);
             }
-            for (int s = 0; s < x.tick(t, 0) * x.tick(t, 1); s++) {
+            int squares = x.tick(t, 0) * x.tick(t, 1);
+            for (int s = 0; s < squares; s++) {
                 for (int what = 0; what <= 9; what++) {
                     d = d * 31 + x.square(t, s, what);
                 }
@@ -305,25 +308,34 @@ public final class NightsTest {
         return d;
     }
 
-    private static void digest() {
+    private static FeatherBeds grown(boolean isBlown, boolean isFilled) {
         FeatherBeds x = new FeatherBeds();
-        CHECKS.due("digest of a new one", x.digest(), digestOf(x));
         x.addSack(3);
         x.addSack(8);
         x.put(1, 4, 300);
         x.put(0, 0, 123);
-        CHECKS.due("digest, sacks", x.digest(), digestOf(x));
-        x.blow(0);
-        x.blow(1);
-        CHECKS.due("digest, chambers", x.digest(), digestOf(x));
-        x.addTick(3, 2, 2);
-        x.addTick(6, 6, 9);
-        x.fill(0, 4, 1, 50);
-        x.fill(0, 1, 4, 60);
-        x.fill(1, 35, 0, 33);
-        x.sew(0, 3, 0, true);
-        x.pass(5);
-        CHECKS.due("digest, ticks", x.digest(), digestOf(x));
-        CHECKS.due("digest once more", x.digest(), digestOf(x));
+        if (isBlown) {
+            x.blow(0);
+            x.blow(1);
+        }
+        if (isFilled) {
+            x.addTick(3, 2, 2);
+            x.addTick(5, 6, 9);
+            x.fill(0, 4, 1, 50);
+            x.fill(0, 1, 4, 60);
+            x.fill(1, 29, 0, 33);
+            x.sew(0, 3, 0, true);
+            x.pass(5);
+        }
+        return x;
+    }
+
+    private static void digest() {
+        // each of these takes nearly all the calls that an object is used for
+        FeatherBeds[] all = {new FeatherBeds(), grown(false, false), grown(true, false), grown(true, true)};
+        for (int i = 0; i < all.length; i++) {
+            CHECKS.due("digest " + i, all[i].digest(), digestOf(all[i]));
+            CHECKS.due("digest once more " + i, all[i].digest(), all[i].digest());
+        }
     }
 }
