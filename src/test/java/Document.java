@@ -47,11 +47,15 @@ final class Document {
         return text.replace("`", "").trim();
     }
 
+    boolean says(String section, String words) {
+        return sections.getOrDefault(section, "").contains(words);
+    }
+
     /** The sentences that do not stand in the document, and the boundary cases there of which none is told. */
     List<String> wrongOnes(List<String[]> said) {
         List<String> wrong = new ArrayList<>();
         for (String[] sentence : said) {
-            if (!sections.getOrDefault(sentence[0], "").contains(sentence[1])) {
+            if (!says(sentence[0], sentence[1])) {
                 wrong.add("that it stands in the document, " + sentence[0] + ": \"" + sentence[1] + "\"");
             }
         }
